@@ -475,10 +475,8 @@ public final class PressBox {
             return new Job(document, image, STOPPED, rest, null);
         }
         purse[owner] -= cost;
-        Build build = new Build(buildCount, document, image.files, press.sheets);
+        Build build = new Build(buildCount, document, image.files, press.handOut());
         buildCount++;
-        // The build keeps those sheets: what is set next is set on others.
-        press.sheets = new Sheets();
         return new Job(document, image, RAN, cost, build);
     }
 
@@ -749,11 +747,20 @@ public final class PressBox {
         /** Of each word that is no reference. */
         final int[] wordWidth = new int[WORDS];
         final int[] lineHeight = new int[WORDS];
+        /** Of each line: the penalty of a border ahead of it. */
+        final int[] border = new int[WORDS];
         /** Of each line, if a page begins there: the least penalties from there on, and the line behind the page. */
         final int[] least = new int[WORDS + 1];
         final int[] pageEnd = new int[WORDS];
         /** The page, from 1 on, that each paragraph begins on. */
         final int[] begins = new int[PARAGRAPHS];
+
+        /** Gives the sheets to a build that keeps them: what is set next is set on others. */
+        Sheets handOut() {
+            Sheets kept = sheets;
+            sheets = new Sheets();
+            return kept;
+        }
 
         void set(Document document, Files files) {
             sheets.reads = document.included;
@@ -764,7 +771,7 @@ public final class PressBox {
             do {
                 sheets.passes++;
                 breakLines(document);
-                raiseLines(space);
+                weighLines(space);
                 breakPages(document.height);
             } while (sheets.passes < MOST_PASSES && renewReferences(document));
         }
@@ -838,10 +845,23 @@ public final class PressBox {
             return page < 10 ? 1 : 2;
         }
 
-        void raiseLines(int space) {
+        void weighLines(int space) {
             for (int line = 0; line < sheets.lines; line++) {
                 lineHeight[line] = sheets.closesParagraph(line) ? 1 + space : 1;
+                border[line] = line == 0 ? 0 : borderPenalty(line);
             }
+        }
+
+        int borderPenalty(int behind) {
+            int ahead = behind - 1;
+            int penalty = 0;
+            if (sheets.opensParagraph(ahead) && !sheets.closesParagraph(ahead)) {
+                penalty += FIRST_LINE_ALONE;
+            }
+            if (sheets.closesParagraph(behind) && !sheets.opensParagraph(behind)) {
+                penalty += LAST_LINE_ALONE;
+            }
+            return penalty;
         }
 
         void breakPages(int height) {
@@ -877,19 +897,7 @@ public final class PressBox {
                 return 0;
             }
             int gap = Math.max(missing, 0);
-            return gap * gap + borderPenalty(end) + least[end];
-        }
-
-        int borderPenalty(int behind) {
-            int ahead = behind - 1;
-            int penalty = 0;
-            if (sheets.opensParagraph(ahead) && !sheets.closesParagraph(ahead)) {
-                penalty += FIRST_LINE_ALONE;
-            }
-            if (sheets.closesParagraph(behind) && !sheets.opensParagraph(behind)) {
-                penalty += LAST_LINE_ALONE;
-            }
-            return penalty;
+            return gap * gap + border[end] + least[end];
         }
 
         void numberPages() {

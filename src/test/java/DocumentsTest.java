@@ -24,6 +24,8 @@ public final class DocumentsTest {
         }
         Check.refused("a 7th, and measure 0", Check.RANGE, () -> x.document(0, 5));
         Check.refused("a 7th", Check.STATE, () -> x.document(50, 5));
+        Check.same("the last one", x.style(5, 0, 1), 0);
+        Check.refused("none behind it", Check.NO_SUCH, () -> x.style(6, 0, 1));
     }
 
     private static void promise12() {

@@ -173,6 +173,11 @@ public final class LayersTest {
         Check.same("hidden at first", x.seal(11), 10);
         x.drop(x.image(Check.codes(10)));
         Check.refused("gone", Check.STATE, () -> x.seal(10));
+        PressBox y = new PressBox();
+        for (int i = 0; i < 24; i++) {
+            y.layer();
+            Check.same("the lowest of all", y.seal(i), i == 0 ? PressBox.NONE : 0);
+        }
     }
 
     private static void promise7() {
@@ -226,6 +231,7 @@ public final class LayersTest {
         Check.refused("the least", Check.RANGE, () -> x.image(Long.MIN_VALUE));
         Check.refused("open, and no layer", Check.RANGE, () -> x.image(Check.codes(2, 3)));
         Check.refused("open", Check.STATE, () -> x.image(Check.codes(0, 2)));
+        Check.refused("open, the lowest", Check.STATE, () -> x.image(Check.codes(2, 0)));
         x.drop(x.image(Check.codes(1)));
         Check.refused("gone", Check.STATE, () -> x.image(Check.codes(0, 1)));
         Check.same("nothing was made by that", x.image(Check.codes(0)), 1);
@@ -246,6 +252,8 @@ public final class LayersTest {
         x.drop(3);
         Check.refused("gone ones count too", Check.STATE, () -> x.image(Check.codes(12)));
         Check.refused("layer gone with its image", Check.STATE, () -> x.image(Check.codes(3)));
+        Check.same("the last image", x.file(11, 0, 0), 12);
+        Check.refused("none behind it", Check.NO_SUCH, () -> x.file(12, 0, 0));
     }
 
     private static void promise8() {

@@ -7,6 +7,7 @@ public final class PagesTest {
         promise22Lines();
         promise22Fallback();
         promise22Pages();
+        promise22Sixty();
         promise22Refusals();
         promise23();
         promise23Figures();
@@ -16,6 +17,7 @@ public final class PagesTest {
         promise24Stopped();
         promise25Gaps();
         promise25Ties();
+        promise25Again();
         promise25HighLines();
         promise26();
         promise26Paragraphs();
@@ -137,6 +139,28 @@ public final class PagesTest {
         Check.row("not included by the document", linesOf(z, 2, 4), 0, 0, 1, 1);
     }
 
+    private static void promise22Sixty() {
+        PressBox x = box(20, 20, 3);
+        for (int i = 0; i < 12; i++) {
+            lines(x, 5);
+        }
+        spaced(x, 3);
+        x.run(0, 0, 1);
+        Check.same("60 lines", x.job(0, 4), 60);
+        Check.same("60 words", x.line(0, 59, 2), 59);
+        Check.same("in paragraph 11", x.line(0, 59, 0), 11);
+        Check.same("the high one alone", x.line(0, 59, 4), 35);
+        Check.same("pages", x.job(0, 3), 36);
+        Check.same("of 5: 2, 2, 1", x.penalties(0), 12 * (1 + 1 + 10));
+        Check.same("anew", x.anew(0, 59), 35);
+        x.document(20, 3);
+        x.run(0, 1, 0);
+        Check.same("nothing behind much", x.penalties(1), 0);
+        Check.same("all pages", x.differences(0, 1), 36);
+        Check.same("all pages, the other way round", x.differences(1, 0), 36);
+        Check.same("none", x.differences(0, 0), 0);
+    }
+
     private static void promise22Refusals() {
         PressBox x = box(20, 20, 3);
         lines(x, 2);
@@ -187,6 +211,13 @@ public final class PagesTest {
         Check.refused("job -1", Check.NO_SUCH, () -> x.shows(-1, 0));
         Check.refused("job 4", Check.NO_SUCH, () -> x.shows(4, 0));
         Check.refused("word -1", Check.NO_SUCH, () -> x.shows(0, -1));
+        PressBox y = box(20, 20, 3);
+        y.paragraph(0, 0);
+        y.paragraph(0, 0);
+        y.reference(0, 0);
+        y.run(0, 0, 0);
+        Check.same("the first paragraph without lines", y.shows(0, 0), 1);
+        Check.same("one pass", y.job(0, 5), 1);
     }
 
     /** Nine lines, a page each by their height, then a paragraph on page 10 with a reference to it. */
@@ -380,6 +411,25 @@ public final class PagesTest {
         lines(z, 13);
         z.run(0, 0, 0);
         Check.row("4, 4, 3, 2 of three", linesOf(z, 0, 4), 0, 0, 0, 0, 1, 1, 1, 1, 2, 2, 2, 3, 3);
+    }
+
+    /** What an earlier job left in the rows that are used again must not weigh on the next one. */
+    private static void promise25Again() {
+        PressBox x = box(20, 20, 3);
+        lines(x, 7);
+        x.document(20, 3);
+        for (int i = 0; i < 4; i++) {
+            x.paragraph(1, 0);
+            x.word(1, 1);
+        }
+        x.run(0, 0, 0);
+        x.run(0, 1, 0);
+        Check.row("3 and 1", linesOf(x, 1, 4), 0, 0, 0, 1);
+        Check.same("nothing", x.penalties(1), 0);
+        Check.same("of the first one", x.penalties(0), 1);
+        Check.same("the first one anew", x.anew(0, 6), 2);
+        Check.same("the second one anew", x.anew(1, 3), 1);
+        Check.row("the first one stays", linesOf(x, 0, 4), 0, 0, 0, 1, 1, 2, 2);
     }
 
     private static void promise25HighLines() {
