@@ -23,7 +23,7 @@ public final class PressBox {
 
     // ---- layers, images
 
-    public int layer() {
+    public int layer() throws IllegalStateException {
         if (layerCount >= LAYERS) {
             throw new IllegalStateException("there are 24 layers");
         }
@@ -32,7 +32,8 @@ public final class PressBox {
         return layerCount - 1;
     }
 
-    public void font(int layer, int file, int width, int cover) {
+    public void font(int layer, int file, int width, int cover)
+            throws IndexOutOfBoundsException, IllegalArgumentException, IllegalStateException {
         Layer changed = layerAt(layer);
         if (!within(file, 0, FONTS - 1) || !within(width, 1, MOST_WIDTH) || !within(cover, 0, ALL_LETTERS)) {
             throw new IllegalArgumentException("file, width or cover");
@@ -41,7 +42,8 @@ public final class PressBox {
         changed.files.put(file, width, cover);
     }
 
-    public void pack(int layer, int file, int space, int version) {
+    public void pack(int layer, int file, int space, int version)
+            throws IndexOutOfBoundsException, IllegalArgumentException, IllegalStateException {
         Layer changed = layerAt(layer);
         if (!within(file, FONTS, FILES - 1) || !within(space, 0, MOST_SPACE) || !within(version, 0, VERSIONS - 1)) {
             throw new IllegalArgumentException("file, space or version");
@@ -50,7 +52,8 @@ public final class PressBox {
         changed.files.put(file, space, version);
     }
 
-    public void hide(int layer, int file) {
+    public void hide(int layer, int file)
+            throws IndexOutOfBoundsException, IllegalArgumentException, IllegalStateException {
         Layer changed = layerAt(layer);
         if (!within(file, 0, FILES - 1)) {
             throw new IllegalArgumentException("file");
@@ -59,7 +62,7 @@ public final class PressBox {
         changed.files.conceal(file);
     }
 
-    public int seal(int layer) {
+    public int seal(int layer) throws IndexOutOfBoundsException, IllegalStateException {
         Layer closed = layerAt(layer);
         checkOpen(closed);
         closed.state = SEALED;
@@ -72,7 +75,7 @@ public final class PressBox {
         return NONE;
     }
 
-    public int image(long layers) {
+    public int image(long layers) throws IllegalArgumentException, IllegalStateException {
         int[] row = rowOf(layers);
         checkSealed(row);
         Image held = heldAlike(row);
@@ -88,14 +91,14 @@ public final class PressBox {
         return imageCount - 1;
     }
 
-    public int drop(int image) {
+    public int drop(int image) throws IndexOutOfBoundsException, IllegalStateException {
         Image dropped = imageAt(image);
         checkHeld(dropped);
         dropped.times--;
         return dropped.times > 0 ? 0 : letGo(dropped.row);
     }
 
-    public int ofLayer(int layer, int what) {
+    public int ofLayer(int layer, int what) throws IndexOutOfBoundsException, IllegalArgumentException {
         Layer asked = layerAt(layer);
         if (!within(what, 0, 1)) {
             throw new IllegalArgumentException("what");
@@ -103,7 +106,8 @@ public final class PressBox {
         return what == 0 ? asked.state : holders(layer);
     }
 
-    public int file(int image, int file, int what) {
+    public int file(int image, int file, int what)
+            throws IndexOutOfBoundsException, IllegalArgumentException, IllegalStateException {
         Image asked = imageAt(image);
         if (!within(file, 0, FILES - 1) || !within(what, 0, 1)) {
             throw new IllegalArgumentException("file or what");
@@ -117,7 +121,7 @@ public final class PressBox {
 
     // ---- documents
 
-    public int document(int measure, int height) {
+    public int document(int measure, int height) throws IllegalArgumentException, IllegalStateException {
         if (!within(measure, 20, 200) || !within(height, 3, 12)) {
             throw new IllegalArgumentException("measure or height");
         }
@@ -129,7 +133,7 @@ public final class PressBox {
         return documentCount - 1;
     }
 
-    public int style(int document, int style, int font) {
+    public int style(int document, int style, int font) throws IndexOutOfBoundsException, IllegalArgumentException {
         Document told = documentAt(document);
         if (!within(style, 0, STYLES - 1) || !within(font, 0, FONTS - 1)) {
             throw new IllegalArgumentException("style or font");
@@ -140,7 +144,8 @@ public final class PressBox {
         return before;
     }
 
-    public boolean include(int document, int file, boolean is) {
+    public boolean include(int document, int file, boolean is)
+            throws IndexOutOfBoundsException, IllegalArgumentException {
         Document told = documentAt(document);
         if (!within(file, FONTS, FILES - 1)) {
             throw new IllegalArgumentException("file");
@@ -152,7 +157,8 @@ public final class PressBox {
         return was;
     }
 
-    public int paragraph(int document, int style) {
+    public int paragraph(int document, int style)
+            throws IndexOutOfBoundsException, IllegalArgumentException, IllegalStateException {
         Document told = documentAt(document);
         if (!within(style, 0, STYLES - 1)) {
             throw new IllegalArgumentException("style");
@@ -166,7 +172,8 @@ public final class PressBox {
         return told.paragraphs - 1;
     }
 
-    public int word(int document, long letters) {
+    public int word(int document, long letters)
+            throws IndexOutOfBoundsException, IllegalArgumentException, IllegalStateException {
         Document told = documentAt(document);
         if (!allCodes(letters, LETTERS, CODES)) {
             throw new IllegalArgumentException("letters");
@@ -177,7 +184,7 @@ public final class PressBox {
         return told.add(letters, NONE);
     }
 
-    public int reference(int document, int paragraph) {
+    public int reference(int document, int paragraph) throws IndexOutOfBoundsException, IllegalStateException {
         Document told = documentAt(document);
         if (!within(paragraph, 0, told.paragraphs - 1)) {
             throw new IndexOutOfBoundsException("no such paragraph");
@@ -188,13 +195,13 @@ public final class PressBox {
         return told.add(0L, paragraph);
     }
 
-    public int version(int document) {
+    public int version(int document) throws IndexOutOfBoundsException {
         return documentAt(document).version;
     }
 
     // ---- jobs
 
-    public int quota(int owner, int more) {
+    public int quota(int owner, int more) throws IllegalArgumentException, IllegalStateException {
         checkOwner(owner);
         if (!within(more, 1, MOST_GIVEN)) {
             throw new IllegalArgumentException("more");
@@ -206,7 +213,8 @@ public final class PressBox {
         return purse[owner];
     }
 
-    public int run(int owner, int document, int image) {
+    public int run(int owner, int document, int image)
+            throws IllegalArgumentException, IndexOutOfBoundsException, IllegalStateException {
         checkOwner(owner);
         Document text = documentAt(document);
         Image used = imageAt(image);
@@ -220,7 +228,8 @@ public final class PressBox {
         return jobCount - 1;
     }
 
-    public void write(int job, int layer, int file) {
+    public void write(int job, int layer, int file)
+            throws IndexOutOfBoundsException, IllegalArgumentException, IllegalStateException {
         Build written = jobAt(job).build;
         Layer changed = layerAt(layer);
         if (!within(file, FONTS, FILES - 1)) {
@@ -233,7 +242,7 @@ public final class PressBox {
         changed.files.put(file, Math.min(written.set.pages, MOST_SPACE), written.number % VERSIONS);
     }
 
-    public int job(int job, int what) {
+    public int job(int job, int what) throws IndexOutOfBoundsException, IllegalArgumentException {
         Job asked = jobAt(job);
         if (!within(what, 0, 6)) {
             throw new IllegalArgumentException("what");
@@ -247,7 +256,7 @@ public final class PressBox {
         return asked.build == null ? NONE : asked.build.tell(what);
     }
 
-    public int line(int job, int line, int what) {
+    public int line(int job, int line, int what) throws IndexOutOfBoundsException, IllegalArgumentException {
         Build asked = jobAt(job).build;
         checkFromZero(line);
         if (!within(what, 0, 4)) {
@@ -256,13 +265,13 @@ public final class PressBox {
         return asked == null ? NONE : asked.set.tellOfLine(line, what);
     }
 
-    public int shows(int job, int word) {
+    public int shows(int job, int word) throws IndexOutOfBoundsException {
         Build asked = jobAt(job).build;
         checkFromZero(word);
         return asked == null || word >= asked.set.words ? NONE : asked.set.shown[word];
     }
 
-    public int anew(int job, int line) {
+    public int anew(int job, int line) throws IndexOutOfBoundsException {
         Job asked = jobAt(job);
         checkFromZero(line);
         if (asked.image.times == 0) {
@@ -272,18 +281,18 @@ public final class PressBox {
         return press.sheets.tellOfLine(line, 4);
     }
 
-    public int penalties(int job) {
+    public int penalties(int job) throws IndexOutOfBoundsException {
         Build asked = jobAt(job).build;
         return asked == null ? NONE : asked.set.penalties;
     }
 
-    public int differences(int job, int other) {
+    public int differences(int job, int other) throws IndexOutOfBoundsException {
         Build one = jobAt(job).build;
         Build another = jobAt(other).build;
         return one == null || another == null ? NONE : one.set.pagesUnlike(another.set);
     }
 
-    public int left(int owner) {
+    public int left(int owner) throws IllegalArgumentException {
         checkOwner(owner);
         return purse[owner];
     }

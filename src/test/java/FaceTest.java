@@ -7,22 +7,29 @@ import java.lang.reflect.Modifier;
 import java.nio.file.Files;
 import java.nio.file.Path;
 import java.util.Arrays;
+import java.util.StringJoiner;
 import java.util.TreeSet;
 
 /** The face of the document, no more and no less, and what ../shared/LANGUAGE.md says that can be read off. */
 public final class FaceTest {
-    private static final String[] METHODS = {"int layer()", "void font(int,int,int,int)", "void pack(int,int,int,int)",
-        "void hide(int,int)", "int seal(int)", "int image(long)", "int drop(int)", "int ofLayer(int,int)",
-        "int file(int,int,int)", "int document(int,int)", "int style(int,int,int)", "boolean include(int,int,boolean)",
-        "int paragraph(int,int)", "int word(int,long)", "int reference(int,int)", "int version(int)",
-        "int quota(int,int)", "int run(int,int,int)", "void write(int,int,int)", "int job(int,int)",
-        "int line(int,int,int)", "int shows(int,int)", "int anew(int,int)", "int penalties(int)",
-        "int differences(int,int)", "int left(int)"};
-    private static final String[] CONSTANTS = {"NONE", "RAN", "KEPT", "STOPPED", "OPEN", "SEALED", "GONE"};
-    private static final String[] FORBIDDEN = {"->", "::", "\" +", "+ \"", "import ", "catch", "finally", "synchronized",
-        "assert", "static {", "Exact(", "double", "float", "instanceof", "System.", "Object"};
+    private static final String DOCUMENT = "../shared/DOC.md";
+    private static final int METHODS = 26;
+    private static final String[] CONSTANTS = {"NONE = -1", "RAN = 0", "KEPT = 1", "STOPPED = 2", "OPEN = 0",
+        "SEALED = 1", "GONE = 2"};
+    private static final String[] FORBIDDEN = {"->", "::", "\" +", "+ \"", "import ", "catch", "finally",
+        "synchronized", "assert", "static {", "Exact(", "double", "float", "instanceof", "System.", "Object"};
 
     public static void main(String[] args) throws IOException {
+        names();
+        methods();
+        constructors();
+        constants();
+        classesInside();
+        source();
+        Check.end("FaceTest");
+    }
+
+    private static void names() {
         TreeSet<String> open = new TreeSet<>();
         TreeSet<String> hidden = new TreeSet<>();
         for (Method method : PressBox.class.getDeclaredMethods()) {
@@ -30,24 +37,56 @@ public final class FaceTest {
             (Modifier.isPublic(method.getModifiers()) ? open : hidden).add(name);
             Check.same(name + " is public or private", openOrPrivate(method), true);
         }
-        TreeSet<String> told = new TreeSet<>();
-        for (Method method : PressBox.class.getMethods()) {
-            if (method.getDeclaringClass() == PressBox.class) {
-                told.add(method.getReturnType() + " " + method.getName()
-                    + Arrays.toString(method.getParameterTypes()).replace("[", "(").replace("]", ")").replace(" ", ""));
-            }
-        }
-        Check.same("the methods are those of the face", told.equals(new TreeSet<>(Arrays.asList(METHODS))), true);
         hidden.retainAll(open);
         Check.same("private methods with names of public ones", hidden.size(), 0);
-        for (Constructor<?> made : PressBox.class.getDeclaredConstructors()) {
-            Check.same("one public constructor", Modifier.isPublic(made.getModifiers()) && made.getParameterCount() == 0,
-                true);
+    }
+
+    /** With the exceptions that each declares, in their order: the machine does not ask for them, the document does. */
+    private static void methods() throws IOException {
+        TreeSet<String> due = faceOfDocument();
+        Check.same("the methods of the document's face", due.size(), METHODS);
+        for (Method method : PressBox.class.getDeclaredMethods()) {
+            if (Modifier.isPublic(method.getModifiers())) {
+                String told = tell(method);
+                Check.same("the document has " + told, due.remove(told), true);
+            }
         }
-        constants();
-        classesInside();
-        source();
-        Check.end("FaceTest");
+        for (String wanting : due) {
+            Check.same("the class has " + wanting, false, true);
+        }
+    }
+
+    private static String tell(Method method) {
+        String text = Modifier.toString(method.getModifiers()) + " " + method.getReturnType() + " " + method.getName()
+            + names(method.getParameterTypes(), "(", ")");
+        return text + names(method.getExceptionTypes(), " throws ", "");
+    }
+
+    private static String names(Class<?>[] types, String ahead, String behind) {
+        StringJoiner names = new StringJoiner(", ", ahead, behind);
+        names.setEmptyValue(behind.isEmpty() ? "" : ahead + behind);
+        for (Class<?> type : types) {
+            names.add(type.getSimpleName());
+        }
+        return names.toString();
+    }
+
+    /** The methods of the document's face as tell() tells them: without the names of the arguments. */
+    private static TreeSet<String> faceOfDocument() throws IOException {
+        TreeSet<String> face = new TreeSet<>();
+        for (String row : Files.readAllLines(Path.of(DOCUMENT))) {
+            if (row.startsWith("    public ") && row.endsWith(";") && row.contains("(") && !row.contains("PressBox(")) {
+                face.add(row.strip().replace(";", "").replaceAll("(int|long|boolean) \\w+(?=[,)])", "$1"));
+            }
+        }
+        return face;
+    }
+
+    private static void constructors() {
+        for (Constructor<?> made : PressBox.class.getDeclaredConstructors()) {
+            Check.same("one public constructor", Modifier.isPublic(made.getModifiers()) && made.getParameterCount() == 0
+                && made.getExceptionTypes().length == 0, true);
+        }
     }
 
     private static boolean openOrPrivate(Member member) {
@@ -55,16 +94,24 @@ public final class FaceTest {
     }
 
     private static void constants() {
-        TreeSet<String> names = new TreeSet<>();
+        TreeSet<String> told = new TreeSet<>();
         for (Field field : PressBox.class.getDeclaredFields()) {
             Check.same(field.getName() + " is public or private", openOrPrivate(field), true);
             if (Modifier.isPublic(field.getModifiers())) {
-                names.add(field.getName());
+                told.add(field.getName() + " = " + numberOf(field));
                 Check.same(field.getName() + " is a constant",
                     Modifier.isStatic(field.getModifiers()) && Modifier.isFinal(field.getModifiers()), true);
             }
         }
-        Check.same("the constants are those of the face", names.equals(new TreeSet<>(Arrays.asList(CONSTANTS))), true);
+        Check.same("the constants are those of the face", told.equals(new TreeSet<>(Arrays.asList(CONSTANTS))), true);
+    }
+
+    private static String numberOf(Field constant) {
+        try {
+            return String.valueOf(constant.getInt(null));
+        } catch (IllegalAccessException e) {
+            return "not to be read";
+        }
     }
 
     private static void classesInside() {
